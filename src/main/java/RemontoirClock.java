@@ -479,7 +479,7 @@ public final class RemontoirClock {
 
     private long hashOfText(long start) {
         long hash = hashWith(start, text.length);
-        for (int i = 0; i < text.length; i++) {
+        for (int i = 0; i < text.length && i < MOST_SIGNS; i++) {
             hash = hashWith(hash, text.signs[i]);
         }
         return hash;
@@ -1060,16 +1060,13 @@ public final class RemontoirClock {
         }
 
         private static int weightNamed(char sign) {
-            switch (sign) {
-                case 'g':
-                    return GOING;
-                case 's':
-                    return STRIKING;
-                case 'c':
-                    return CHIMING;
-                default:
-                    return NONE;
+            if (sign == 'g') {
+                return GOING;
             }
+            if (sign == 's') {
+                return STRIKING;
+            }
+            return sign == 'c' ? CHIMING : NONE;
         }
 
         private boolean readsTurns(char sign) {

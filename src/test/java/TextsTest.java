@@ -9,6 +9,7 @@ public final class TextsTest {
         undoAndTheBuffer();
         undoSixStates();
         undoGivesBackAll();
+        undoGivesBackDebts();
         Check.end();
     }
 
@@ -190,5 +191,24 @@ public final class TextsTest {
         Check.isTrue("the number of saved states counts too", clock.digest() != before);
         Check.same("charge", clock.count(2), 6);
         Check.same("winders", clock.winder(0, 2), 50);
+    }
+
+    private static void undoGivesBackDebts() {
+        RemontoirClock clock = new RemontoirClock();
+        clock.set(3, 2);
+        clock.setHands(659);
+        clock.pass(1);
+        clock.setHands(479);
+        clock.pass(20);
+        Check.same("no debt is left", clock.count(5), 0);
+        clock.setHands(239);
+        clock.pass(1);
+        Check.same("a new one", clock.debt(0, 0), 4);
+        for (int i = 0; i < 3; i++) {
+            clock.undo();
+        }
+        Check.same("one debt", clock.count(5), 1);
+        Check.same("for its own hour", clock.debt(0, 0), 11);
+        Check.same("with its own strokes", clock.debt(0, 1), 9);
     }
 }

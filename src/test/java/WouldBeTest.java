@@ -11,6 +11,7 @@ public final class WouldBeTest {
         paidInAtItsEnd();
         leastTurns();
         leastTurnsWithWinders();
+        leastTurnsWhereStrikersAreKeptOut();
         leastTurnsWhereMoreIsWorse();
         downFirst();
         downFirstAtItsEnd();
@@ -254,6 +255,21 @@ public final class WouldBeTest {
         Check.same("the other one comes first", clock.leastTurns(21), 21);
     }
 
+    /** If the clock goes on until the hour, the striking winder is kept out, and the other one comes first. */
+    private static void leastTurnsWhereStrikersAreKeptOut() {
+        RemontoirClock clock = new RemontoirClock();
+        clock.set(3, 1);
+        clock.pass(205);
+        clock.setHands(710);
+        clock.hire(1, 5, 12);
+        clock.hire(0, 50, 12);
+        Check.same("charge", clock.count(2), 5);
+        Check.same("until the going winder comes", clock.leastTurns(12), 7);
+        Check.same("when he comes", clock.leastTurns(13), 7);
+        clock.setHands(10);
+        Check.same("without an hour he comes a minute later", clock.leastTurns(13), 8);
+    }
+
     /**
      * From the minute 704 on, 12 turns last until the first winder comes, in 716, with nothing to
      * spare: so the spring is rewound in 716 and in 724, and is all but full when the second one
@@ -375,7 +391,9 @@ public final class WouldBeTest {
         Check.sameDouble("undone", clock.lostShare(), 0.0);
         RemontoirClock all = new RemontoirClock();
         all.setSnow(20);
-        all.pass(77);
+        all.pass(1);
+        Check.sameDouble("one of one", all.lostShare(), 1.0);
+        all.pass(76);
         Check.sameDouble("all", all.lostShare(), 1.0);
     }
 
@@ -398,6 +416,11 @@ public final class WouldBeTest {
         clock.clearBuffer();
         Check.same("without the text", clock.digest(), Digests.of(clock, ""));
         Check.same("asked twice", clock.digest(), clock.digest());
+        RemontoirClock turns = new RemontoirClock();
+        turns.pass(100);
+        turns.hire(0, 60, 130);
+        Check.same("leastTurns that depends on the minutes", turns.leastTurns(240), 70);
+        Check.same("digest with it", turns.digest(), Digests.of(turns, ""));
     }
 
     private static void digestOfManyShares() {
