@@ -6,8 +6,18 @@ final class Check {
 
     private static int asked;
     private static int wrong;
+    private static String sentence = "";
 
     private Check() {
+    }
+
+    /** What is asked from now on is asked for this sentence of the document; a wrong answer tells it. */
+    static void about(String words) {
+        sentence = words;
+    }
+
+    static int asked() {
+        return asked;
     }
 
     static void same(String call, long got, long due) {
@@ -65,7 +75,7 @@ final class Check {
     private static void tell(String line) {
         wrong++;
         if (wrong <= 40) {
-            System.out.println(line);
+            System.out.println(sentence.isEmpty() ? line : line + " [" + sentence + "]");
         }
     }
 }
