@@ -2,10 +2,12 @@ import java.util.function.IntSupplier;
 
 /** Long runs of mixed calls, each answer compared with that of PlainClock; always the same runs. */
 public final class LongRunsTest {
-    private static final int RUNS = 120;
-    private static final int CALLS = 400;
+    private static final int RUNS = 480;
+    /** What an object answers behind its 512th call is free; a text and the digest are up to 200 calls more. */
+    private static final int CALLS = 300;
 
     private static long seed = 20261119L;
+    private static int calls;
 
     public static void main(String[] args) {
         for (int run = 0; run < RUNS; run++) {
@@ -36,20 +38,20 @@ public final class LongRunsTest {
         RemontoirClock clock = new RemontoirClock();
         PlainClock plain = new PlainClock();
         int kind = run % 4;
-        for (int call = 0; call < CALLS; call++) {
-            String name = run + ", " + call + ": ";
+        calls = 0;
+        while (calls < CALLS) {
+            String name = run + ", " + calls + ": ";
             if (pick(2) == 0) {
                 ask(name, clock, plain);
             } else {
                 act(name, clock, plain, kind);
             }
-            if (call % 50 == 49) {
-                Check.same(name + "digest", clock.digest(), Digests.of(clock, plain.buffer()));
-            }
         }
+        Check.same(run + ": digest", clock.digest(), Digests.of(clock, plain.buffer()));
     }
 
     private static void same(String call, IntSupplier got, IntSupplier due) {
+        calls++;
         Check.same(call, answer(got), answer(due));
     }
 
@@ -183,6 +185,7 @@ public final class LongRunsTest {
                 same(name + "downFirst", clock::downFirst, plain::downFirst);
                 break;
             default:
+                calls++;
                 Check.sameDouble(name + "lostShare", clock.lostShare(), plain.lostShare());
         }
     }
