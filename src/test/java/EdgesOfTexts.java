@@ -148,12 +148,41 @@ final class EdgesOfTexts {
         clock.clearBuffer();
         Check.same("nothing is left", clock.digest(), new RemontoirClock().digest());
         Check.same("an empty one has no error", clock.firstError(), 0);
+        longerTextBefore();
         Sentences.about(promise, "Returns the length that it had.");
         for (int length : new int[] {0, 1, 59, 60}) {
             RemontoirClock one = Twins.made(typed("x".repeat(length)));
             Check.same("length", one.clearBuffer(), length);
             Check.same("then 0", one.clearBuffer(), 0);
         }
+    }
+
+    /** What stood behind the end of the new text before it was cleared, or loaded, must not be read. */
+    private static void longerTextBefore() {
+        for (boolean isLoaded : new boolean[] {false, true}) {
+            for (String longer : new String[] {"g1/111", "g1/1,s2/2", "g1/1,c3/3,c4/4"}) {
+                RemontoirClock clock = Twins.made(typed(longer));
+                Check.isTrue("the longer text is gone", (isLoaded ? clock.load() : clock.clearBuffer()) > 0);
+                Check.type(clock, "g1/1");
+                Check.same("behind " + longer + ": firstError", clock.firstError(), 4);
+                Check.same("behind " + longer + ": digest", clock.digest(), Digests.of(clock, "g1/1"));
+                Check.same("behind " + longer + ": load", clock.load(), 1);
+                Check.same("behind " + longer + ": period", clock.winder(0, 2), 1);
+            }
+        }
+        RemontoirClock seven = Twins.made(typed(TWELVE_ROUNDS));
+        seven.clearBuffer();
+        Check.type(seven, TWELVE_ROUNDS.substring(0, 29));
+        Check.same("six rounds behind twelve", seven.load(), 6);
+        RemontoirClock none = Twins.made(typed("g1/1"));
+        none.clearBuffer();
+        Check.type(none, "g");
+        Check.same("what is begun is not completed", none.firstError(), 1);
+        Twins.refuse("nor loaded", Check.NO_ARGUMENT, one -> {
+            Check.type(one, "g1/1");
+            one.clearBuffer();
+            Check.type(one, "g1/");
+        }, RemontoirClock::load);
     }
 
     private static void firstError() {
