@@ -1,45 +1,20 @@
+import java.io.IOException;
 import java.lang.reflect.Constructor;
 import java.lang.reflect.Field;
 import java.lang.reflect.Method;
 import java.lang.reflect.Modifier;
+import java.nio.file.Files;
+import java.nio.file.Path;
 import java.util.ArrayList;
-import java.util.Arrays;
 import java.util.List;
 import java.util.TreeSet;
 
 /** The face of the class: what the document shows, and nothing else. */
 public final class FaceTest {
-    private static final String[] FACE = {
-        "int append(int) IllegalArgumentException IllegalStateException",
-        "int clearBuffer()",
-        "int count(int) IllegalArgumentException",
-        "int debt(int,int) IndexOutOfBoundsException IllegalArgumentException",
-        "int dismiss(int) IndexOutOfBoundsException",
-        "long digest()",
-        "int downFirst()",
-        "int firstError()",
-        "int forgive()",
-        "int hire(int,int,int) IndexOutOfBoundsException IllegalArgumentException IllegalStateException",
-        "int ifPassed(int,int) IllegalArgumentException",
-        "int leastTurns(int) IllegalArgumentException",
-        "int load() IllegalArgumentException IllegalStateException",
-        "double lostShare()",
-        "int mend()",
-        "int paidIn()",
-        "int pass(int) IllegalArgumentException IllegalStateException",
-        "int set(int,int) IndexOutOfBoundsException IllegalArgumentException",
-        "int setHands(int) IllegalArgumentException",
-        "int setSnow(int) IllegalArgumentException",
-        "int setting(int) IndexOutOfBoundsException",
-        "int standsIn()",
-        "int undo() IllegalStateException",
-        "int weight(int,int) IndexOutOfBoundsException IllegalArgumentException",
-        "int why(int) IllegalArgumentException",
-        "int wind(int,int) IndexOutOfBoundsException IllegalArgumentException",
-        "int winder(int,int) IndexOutOfBoundsException IllegalArgumentException",
-    };
+    private static final Path DOCUMENT = Path.of("..", "shared", "DOC.md");
+    private static final int METHODS = 27;
 
-    public static void main(String[] args) {
+    public static void main(String[] args) throws IOException {
         methods();
         fields();
         constructors();
@@ -47,7 +22,7 @@ public final class FaceTest {
         Check.end();
     }
 
-    private static void methods() {
+    private static void methods() throws IOException {
         TreeSet<String> seen = new TreeSet<>();
         List<String> publicNames = new ArrayList<>();
         for (Method method : RemontoirClock.class.getDeclaredMethods()) {
@@ -56,13 +31,29 @@ public final class FaceTest {
                 publicNames.add(method.getName());
             }
         }
-        TreeSet<String> due = new TreeSet<>(Arrays.asList(FACE));
-        Check.isTrue("the methods are " + seen, seen.equals(due));
+        TreeSet<String> due = methodsInDocument();
+        Check.same("methods of the document", due.size(), METHODS);
+        Check.isTrue("the methods are " + seen + ", due are " + due, seen.equals(due));
         for (Method method : RemontoirClock.class.getDeclaredMethods()) {
             boolean isPublic = Modifier.isPublic(method.getModifiers());
             Check.isTrue(method + " is public or private", isPublic || Modifier.isPrivate(method.getModifiers()));
             Check.isTrue(method + " bears its own name", isPublic || !publicNames.contains(method.getName()));
         }
+    }
+
+    /** The lines of the face that have an answer and parameters: "int wind(int weight, int turns) throws ..;". */
+    private static TreeSet<String> methodsInDocument() throws IOException {
+        TreeSet<String> due = new TreeSet<>();
+        boolean inFace = false;
+        for (String line : Files.readAllLines(DOCUMENT)) {
+            inFace = line.startsWith("#") ? line.equals("## The public face") : inFace;
+            String method = line.strip();
+            if (inFace && method.matches("public \\w+ \\w+\\(.*;")) {
+                due.add(method.replaceFirst("public ", "").replace(";", "").replace(" throws", "")
+                        .replaceAll("int \\w+(?=[,)])", "int").replace(", ", ",").replaceAll("(?<=Exception),", " "));
+            }
+        }
+        return due;
     }
 
     private static String line(Method method) {
@@ -78,11 +69,15 @@ public final class FaceTest {
         return line.toString();
     }
 
-    private static void fields() {
+    private static void fields() throws IOException {
+        String none = "    public static final int NONE = -1;";
+        Check.isTrue("the document says" + none, Files.readAllLines(DOCUMENT).contains(none));
         for (Field field : RemontoirClock.class.getDeclaredFields()) {
             boolean isNone = field.getName().equals("NONE");
             Check.isTrue(field + " is private, but for NONE", isNone || Modifier.isPrivate(field.getModifiers()));
             Check.isTrue(field + " is final", Modifier.isFinal(field.getModifiers()));
+            Check.isTrue(field + " is as told", !isNone
+                    || field.toString().equals("public static final int RemontoirClock.NONE"));
         }
     }
 
